@@ -849,10 +849,7 @@ public final class WalnutHouses {
         private int number = 0;
 
         private void rewind() {
-            token = END;
-            start = 0;
             next = 0;
-            number = 0;
         }
 
         private void readToken() {

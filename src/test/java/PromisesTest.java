@@ -122,6 +122,12 @@ public final class PromisesTest {
         feed(x, ";");
         due("text()", x.text(), 1);
         due("rule(2)", x.rule(2), 1);
+        feed(x, "motions");
+        x.end(6);
+        due("text(): what came behind is gone", x.text(), -16);
+        feed(x, "motion 1;");
+        x.end(8);
+        due("text(): what came behind is gone", x.text(), -18);
     }
 
     private static void text(String text, int answer, int fault) {
@@ -166,6 +172,8 @@ public final class PromisesTest {
         text("motions 1;", -10, 2);
         text("motio 1;", -10, 2);
         text("motiom 1;", -10, 2);
+        text("notion 1;", -10, 2);
+        text("blain 0 0 0;", -10, 2);
         text("want 1;", -10, 2);
         text(";", -10, 2);
         text("5;", -10, 2);
@@ -186,6 +194,11 @@ public final class PromisesTest {
         text(six + "whip", -82, 5);
         text(six + " motion 1; maggot 5", -93, 5);
         text(six + "whi", -82, 2);
+        text(" ".repeat(160), 0, 0);
+        text("a".repeat(160), -10, 2);
+        text("1".repeat(160), -10, 1);
+        text(" ".repeat(151) + "motion 7;", 1, 0);
+        text(" ".repeat(152) + "motion 7", -170, 2);
     }
 
     private static void textTellsAll() {
@@ -193,8 +206,10 @@ public final class PromisesTest {
         WalnutHouses x = quarrel();
         x.days(3);
         x.see(2, 9);
+        x.keep(0);
         x.keep(1);
         x.sheet(0, 0, 5);
+        x.runs(1, 0);
         feed(x, "maggot 1 3 4;motion 21;");
         due("text()", x.text(), -30);
         due("rule(0)", x.rule(0), 2);
@@ -202,8 +217,9 @@ public final class PromisesTest {
         due("rule(2)", x.rule(2), 9);
         due("rule(6)", x.rule(6), 3);
         due("count(0)", x.count(0), 1);
-        due("count(1)", x.count(1), 1);
+        due("count(1)", x.count(1), 2);
         due("member(0, 0)", x.member(0, 0), 1);
+        x.runs(1, 0);
         feed(x, "maggot 1 3 4;doubter 0 20 19;");
         due("text()", x.text(), 2);
         int[] first = {3, 1, 3, 4};
@@ -218,8 +234,16 @@ public final class PromisesTest {
         due("rule(6)", x.rule(6), 0);
         due("count(0)", x.count(0), 0);
         due("count(1)", x.count(1), 0);
+        due("back(0)", x.back(0), STATE);
         due("back(1)", x.back(1), STATE);
         due("count(3)", x.count(3), 5);
+        x.word(2);
+        x.runs(0, 0);
+        due("text()", x.text(), 0);
+        due("rule(2)", x.rule(2), 10);
+        feed(x, "motion 4;");
+        due("text(): motion was told in an earlier text alone", x.text(), 1);
+        due("rule(2)", x.rule(2), 4);
         due("text()", x.text(), 0);
         due("rule(0)", x.rule(0), 0);
         promise = 5;
@@ -394,6 +418,14 @@ public final class PromisesTest {
         promise = 14;
         due("runs(1, 0)", x.runs(1, 0), 10);
         due("runs(2, 0)", x.runs(2, 0), 9);
+        due("runs(60, 1): 999 AMENDMENTS at most", x.runs(60, 1), 0);
+        x.text();
+        feed(x, "whip 0 0 0;whip 1 20 0;");
+        x.text();
+        x.days(7);
+        due("runs(6, 1): those of before are none in them", x.runs(6, 1), 6);
+        promise = 32;
+        due("drift(1, 1, 1)", x.drift(1, 1, 1), 1);
     }
 
     private static void aDay() {
@@ -497,6 +529,8 @@ public final class PromisesTest {
         x = told("whip 0 4 3;plain 1 7 3;");
         due("wording(0)", x.wording(0), 4);
         due("wording(1)", x.wording(1), 0);
+        due("wording(0)", told("whip 0 20 0;whip 1 20 0;").wording(0), 20);
+        due("wording(0)", told("whip 0 0 0;whip 1 0 0;").wording(0), 0);
     }
 
     private static void middleAndSwing() {
@@ -509,6 +543,9 @@ public final class PromisesTest {
         x.clear(1);
         due("middle(0)", x.middle(0), 2);
         due("middle(1)", x.middle(1), 1);
+        due("middle(0)", told("plain 0 20 0;").middle(0), 20);
+        due("middle(1)", told("plain 0 20 0;").middle(1), 1);
+        due("middle(0)", told("plain 0 0 0;").middle(0), 0);
         promise = 19;
         x = told("plain 0 4 2;plain 0 10 1;plain 0 13 2;plain 1 0 0;");
         // MEMBER 0 decides where just one of the others is for it: 9, 10 and 12 to 15
@@ -600,6 +637,8 @@ public final class PromisesTest {
         // HOUSE 0 makes it 7, HOUSE 1 makes it 6, if its WANT is below; 2 is 5 away then, so that it tires, and 4 in the end
         due("mind(1, 0)", x.mind(1, 0), 2);
         due("mind(1, 1)", x.mind(1, 1), 2);
+        due("mind(0, 0)", told("plain 0 5 0;motion 20;").mind(0, 0), 20);
+        due("mind(0, 0)", told("plain 0 5 0;motion 0;").mind(0, 0), 0);
         due("mind(0, 2)", x.mind(0, 2), BAD);
         due("mind(0, -1)", x.mind(0, -1), BAD);
         due("mind(2, 0)", x.mind(2, 0), BAD);
@@ -732,6 +771,17 @@ public final class PromisesTest {
         due("ask(0, 1)", x.ask(0, 1), NONE);
         x.see(5, 13);
         due("ask(0, 0): none is left", x.ask(0, 0), NONE);
+        // HOUSE 1 sits for the 10th time on DAY 19: only then does a WANT of 20 part from 18 and 19
+        x = told("plain 1 13 0;motion 1;");
+        due("ask(0, 0)", x.ask(0, 0), 20);
+        due("ask(0, 1)", x.ask(0, 1), 2);
+        // a maggot at the end is heard no more
+        x = told("maggot 0 5 0;motion 0;");
+        due("ask(0, 0)", x.ask(0, 0), NONE);
+        // the whip outdoes him for 20 DAYS, whatever he wants
+        x = told("plain 0 8 0;whip 0 20 0;");
+        due("ask(0, 0)", x.ask(0, 0), NONE);
+        due("ask(0, 1)", x.ask(0, 1), NONE);
     }
 
     private static void drift() {
@@ -749,6 +799,15 @@ public final class PromisesTest {
         due("drift(1, 1, 0)", x.drift(1, 1, 0), 9);
         due("member(0, 2)", x.member(0, 2), 10);
         due("rule(1)", x.rule(1), 0);
+        // 7: got 19564, 9806, 10868, 22674, 32531 are WANTS 9, 7, 14, 20, 13; HOUSE 1 is empty: 9, 9, 10, 10, 11
+        int[] motions = {9, 9, 10, 10, 11};
+        int[] amended = {1, 1, 2, 2, 3};
+        for (int n = 1; n <= motions.length; n++) {
+            due("drift(7, " + n + ", 0)", x.drift(7, n, 0), motions[n - 1]);
+            due("drift(7, " + n + ", 1)", x.drift(7, n, 1), amended[n - 1]);
+        }
+        due("drift(7, 60, 1)", x.drift(7, 60, 1), 9);
+        due("drift(7, 61, 1)", x.drift(7, 61, 1), BAD);
         int[] seeds = {LOWEST, -1, 7, HIGHEST};
         for (int seed : seeds) {
             int got = (seed * 1103515245 + 12345) >> 16 & 0x7fff;
@@ -794,6 +853,13 @@ public final class PromisesTest {
         due("back(0)", x.back(0), 5);
         due("rule(2)", x.rule(2), 9);
         due("kinds(0): as was SEEN", x.kinds(0), 0);
+        x.forget(0);
+        x.see(0, 9);
+        x.keep(0);
+        x.forget(0);
+        x.see(1, 3);
+        due("back(0)", x.back(0), 5);
+        due("kinds(0): as was SEEN", x.kinds(0), 15);
     }
 
     private static void sheets() {
