@@ -194,9 +194,7 @@ public final class WalnutHouses {
         if (now.day + n > LAST_DAY) {
             return FULL;
         }
-        int before = now.amendments;
-        now.passDays(n);
-        return now.amendments - before;
+        return now.passDays(n);
     }
 
     public int runs(int n, int what) {
@@ -204,10 +202,10 @@ public final class WalnutHouses {
             return BAD;
         }
         trial.become(now);
-        trial.passDays(n);
+        int amended = trial.passDays(n);
         switch (what) {
             case 0: return trial.motion;
-            case 1: return trial.amendments - now.amendments;
+            case 1: return amended;
             case 2: return bit(trial.isCarried());
             case 3: return trial.sumOf(SLACK);
             default: return trial.agreeingHouses();
@@ -392,13 +390,14 @@ public final class WalnutHouses {
         }
         trial.become(now);
         int state = seed;
+        int amended = 0;
         for (int d = 0; d < n; d++) {
             state = state * 1103515245 + 12345;
             int got = (state >>> 16) & 0x7fff;
             trial.put(got % now.members, WANT, got / 8 % WORDINGS);
-            trial.passDay(true);
+            amended += trial.passDay(true);
         }
-        return what == 0 ? trial.motion : trial.amendments - now.amendments;
+        return what == 0 ? trial.motion : amended;
     }
 
     // ---- images, sheets
@@ -785,20 +784,22 @@ public final class WalnutHouses {
             return sum;
         }
 
-        private void passDays(int n) {
+        /** AMENDMENTS in these DAYS; each change counts, also where the number that is kept of all stops at 999. */
+        private int passDays(int n) {
+            int amended = 0;
             for (int d = 0; d < n; d++) {
-                passDay(true);
+                amended += passDay(true);
             }
+            return amended;
         }
 
-        private void passDay(boolean sitting) {
-            if (sitting && !isCarried()) {
-                sit(day % 2);
-            }
+        private int passDay(boolean sitting) {
+            int amended = sitting && !isCarried() ? sit(day % 2) : 0;
             day++;
+            return amended;
         }
 
-        private void sit(int house) {
+        private int sit(int house) {
             int sum = 0;
             for (int i = 0; i < members; i++) {
                 if (part(i, HOUSE) == house) {
@@ -807,7 +808,7 @@ public final class WalnutHouses {
                 }
             }
             // votes and pulls are as THE MOTION was, so it is changed last
-            amend(sign(sum));
+            return amend(sign(sum));
         }
 
         private void tire(int i) {
@@ -816,12 +817,15 @@ public final class WalnutHouses {
             }
         }
 
-        private void amend(int step) {
+        /** 1, if that changes THE MOTION, else 0. */
+        private int amend(int step) {
             int to = Math.max(0, Math.min(TOP, motion + step));
-            if (to != motion) {
-                motion = to;
-                amendments = Math.min(MOST_AMENDMENTS, amendments + 1);
+            if (to == motion) {
+                return 0;
             }
+            motion = to;
+            amendments = Math.min(MOST_AMENDMENTS, amendments + 1);
+            return 1;
         }
 
         /** Passes DAYS until it is CARRIED: how many; one more than 60, if it is not. */

@@ -11,6 +11,8 @@ public final class ModelTest {
     private static final int RUNS = 3000;
     /** An object is used for 512 calls at most; a text at the end takes some 200 of them. */
     private static final int CALLS = 300;
+    /** One run of so many begins late, near DAY 999. */
+    private static final int LATE_EACH = 10;
     private static final int BAD = -1, STATE = -2, FULL = -3, NONE = -4;
 
     record Member(int kind, int house, int want, int slack) {
@@ -119,6 +121,18 @@ public final class ModelTest {
 
         Walnut after(int n) {
             return n == 0 ? this : next().after(n - 1);
+        }
+
+        /** How often THE MOTION is another than the DAY before. */
+        int changes(int n) {
+            int changes = 0;
+            Walnut w = this;
+            for (int d = 0; d < n; d++) {
+                Walnut then = w.next();
+                changes += then.motion == w.motion ? 0 : 1;
+                w = then;
+            }
+            return changes;
         }
 
         int carries() {
@@ -348,13 +362,16 @@ public final class ModelTest {
                 return STATE;
             }
             Walnut w = nut;
+            int changes = 0;
             BigInteger s = BigInteger.valueOf(seed);
             for (int d = 0; d < n; d++) {
                 s = s.multiply(BigInteger.valueOf(1103515245)).add(BigInteger.valueOf(12345));
                 int got = s.shiftRight(16).mod(BigInteger.valueOf(32768)).intValue();
-                w = w.with(got % nut.members.size(), 2, got / 8 % 21).next();
+                w = w.with(got % nut.members.size(), 2, got / 8 % 21);
+                changes += w.changes(1);
+                w = w.next();
             }
-            return what == 0 ? w.motion : w.amendments - nut.amendments;
+            return what == 0 ? w.motion : changes;
         }
 
         int sheet(int k, int lane, int n) {
@@ -466,6 +483,25 @@ public final class ModelTest {
         }
     }
 
+    /** A quarrel of two whips that has gone on until late, so that the run goes on where DAY and AMENDMENTS end. */
+    private void late() {
+        m.nut = new Walnut(List.of(new Member(1, 0, 0, 0), new Member(1, 1, 20, 0)), 10, 0, 0, List.of());
+        x.seat(0, 0);
+        x.alter(0, 0, 1);
+        x.seat(1, 20);
+        x.alter(1, 0, 1);
+        for (int n = 0; n < 32; n++) {
+            pass(30);
+        }
+        pass(random.nextInt(40));
+    }
+
+    private void pass(int n) {
+        int due = !Model.in(n, 0, 30) ? BAD : m.nut.day + n >= 1000 ? FULL : m.nut.changes(n);
+        m.nut = due < 0 ? m.nut : m.nut.after(n);
+        same("days(" + n + ")", x.days(n), due);
+    }
+
     private String oneOf(String... parts) {
         return parts[random.nextInt(parts.length)];
     }
@@ -552,10 +588,7 @@ public final class ModelTest {
                 same("clear(" + n + ")", x.clear(n), due);
             }
             default -> {
-                int n = random.nextBoolean() ? pick(30) : pick(3);
-                int due = !Model.in(n, 0, 30) ? BAD : m.nut.day + n >= 1000 ? FULL : m.nut.after(n).amendments - m.nut.amendments;
-                m.nut = due < 0 ? m.nut : m.nut.after(n);
-                same("days(" + n + ")", x.days(n), due);
+                pass(random.nextBoolean() ? pick(30) : pick(3));
             }
         }
     }
@@ -605,7 +638,7 @@ public final class ModelTest {
         Walnut w = days ? m.nut.after(n) : m.nut;
         same("runs(" + n + ", " + what + ")", x.runs(n, what), !days ? BAD : switch (what) {
             case 0 -> w.motion;
-            case 1 -> w.amendments - m.nut.amendments;
+            case 1 -> m.nut.changes(n);
             case 2 -> w.carried() ? 1 : 0;
             case 3 -> w.sum(3);
             case 4 -> (w.agrees(0) ? 1 : 0) | (w.agrees(1) ? 2 : 0);
@@ -748,6 +781,9 @@ public final class ModelTest {
         int wrong = 0;
         for (int seed = 0; seed < RUNS && wrong == 0; seed++) {
             ModelTest t = new ModelTest(seed);
+            if (seed % LATE_EACH == 0) {
+                t.late();
+            }
             while (t.made < CALLS && t.wrong == 0) {
                 t.call();
             }

@@ -408,6 +408,7 @@ public final class PromisesTest {
         }
         due("days(10)", x.days(10), FULL);
         due("rule(1)", x.rule(1), 990);
+        amendmentsInDays("from DAY 990", x);
         due("days(9)", x.days(9), 9);
         due("rule(1)", x.rule(1), 999);
         due("rule(6)", x.rule(6), 999);
@@ -418,7 +419,7 @@ public final class PromisesTest {
         promise = 14;
         due("runs(1, 0)", x.runs(1, 0), 10);
         due("runs(2, 0)", x.runs(2, 0), 9);
-        due("runs(60, 1): 999 AMENDMENTS at most", x.runs(60, 1), 0);
+        amendmentsInDays("from DAY 999", x);
         x.text();
         feed(x, "whip 0 0 0;whip 1 20 0;");
         x.text();
@@ -426,6 +427,36 @@ public final class PromisesTest {
         due("runs(6, 1): those of before are none in them", x.runs(6, 1), 6);
         promise = 32;
         due("drift(1, 1, 1)", x.drift(1, 1, 1), 1);
+    }
+
+    /** THE MOTION of a quarrel changes on every DAY BY DAYS, also on those where rule(6) would tell 999 at most. */
+    private static void amendmentsInDays(String when, WalnutHouses x) {
+        int before = x.rule(6);
+        promise = 14;
+        int[] spans = {0, 1, 9, 10, 59, 60};
+        for (int n : spans) {
+            due("runs(" + n + ", 1) " + when, x.runs(n, 1), n);
+        }
+        promise = 32;
+        int[] seeds = {7, -1};
+        for (int seed : seeds) {
+            due("drift(" + seed + ", 60, 1) " + when, x.drift(seed, 60, 1), driftChanges(x, seed, 60));
+        }
+        promise = 6;
+        due("rule(6): BY DAYS leaves it", x.rule(6), before);
+        promise = 13;
+    }
+
+    /** How often THE MOTION that drift() tells differs from that of the DAY before. */
+    private static int driftChanges(WalnutHouses x, int seed, int n) {
+        int changes = 0;
+        int before = x.rule(2);
+        for (int d = 1; d <= n; d++) {
+            int motion = x.drift(seed, d, 0);
+            changes += motion == before ? 0 : 1;
+            before = motion;
+        }
+        return changes;
     }
 
     private static void aDay() {
