@@ -1,4 +1,5 @@
 import java.util.ArrayList;
+import java.util.Arrays;
 import java.util.List;
 import java.util.function.Supplier;
 import java.util.function.ToLongFunction;
@@ -7,9 +8,8 @@ import java.util.function.ToLongFunction;
 final class Rows {
     static final int LOWEST = Integer.MIN_VALUE, HIGHEST = Integer.MAX_VALUE;
 
-    private static final String[] LINES = {
-        "whip 0 3 1;", "plain 1 17 0;", "doubter 0 20 2;", "maggot 1 9 4;", "plain 0 12 0;", "whip 1 6 3;"
-    };
+    /** KIND, HOUSE, WANT, SLACK of each. */
+    static final int[][] SIX = {{1, 0, 3, 1}, {0, 1, 17, 0}, {2, 0, 20, 2}, {3, 1, 9, 4}, {0, 0, 12, 0}, {1, 1, 6, 3}};
 
     private static String sentence = "";
     private static int sentences = 0;
@@ -82,13 +82,21 @@ final class Rows {
         return x;
     }
 
+    /** MEMBERS by calls that are fewer than the letters of a text: an object is used for at most 512. */
+    static WalnutHouses seated(int[][] members) {
+        WalnutHouses x = new WalnutHouses();
+        for (int i = 0; i < members.length; i++) {
+            x.seat(members[i][1], members[i][2]);
+            x.alter(i, 0, members[i][0]);
+            x.alter(i, 3, members[i][3]);
+        }
+        return x;
+    }
+
     /** A walnut of which every part differs from that of a new one, so that any change of it can be seen. */
     static WalnutHouses rich(int members) {
-        StringBuilder text = new StringBuilder();
-        for (int i = 0; i < members; i++) {
-            text.append(LINES[i]);
-        }
-        WalnutHouses x = told(text.append("motion 8;").toString());
+        WalnutHouses x = seated(Arrays.copyOf(SIX, members));
+        x.word(8);
         feed(x, "?");
         x.text();
         x.days(3);
@@ -143,7 +151,7 @@ final class Rows {
         due(call + ": what it leaves differs at", at, due.size());
     }
 
-    /** All that can be asked, in some 320 calls. */
+    /** All that can be asked, in some 370 calls. */
     private static List<Long> look(WalnutHouses x) {
         List<Long> all = new ArrayList<>();
         all.add((long) x.fault());
@@ -181,20 +189,31 @@ final class Rows {
         all.add((long) x.count(0));
     }
 
-    /** CELLS show in the WANTS of six MEMBERS. */
     private static void lookAtSheets(WalnutHouses x, List<Long> all) {
+        for (int k = 0; k < 4; k++) {
+            all.addAll(sheet(x, k));
+        }
+    }
+
+    /** A SHEET's lane, size and CELLS: they show in the WANTS of six MEMBERS, six pairs at a time. */
+    static List<Long> sheet(WalnutHouses x, int k) {
+        List<Long> all = new ArrayList<>();
         x.clear(0);
         for (int i = 0; i < 6; i++) {
             x.seat(0, i);
         }
-        for (int k = 0; k < 4; k++) {
-            for (int lane = 0; lane < 3; lane++) {
-                all.add((long) x.read(k, lane, 0, 20));
+        for (int lane = 0; lane < 3; lane++) {
+            boolean more = true;
+            for (int f = 0; f <= 36 && more; f += 12) {
+                long came = x.read(k, lane, f, 6);
+                all.add(came);
                 all.add((long) x.torn());
-                for (int i = 0; i < 6; i++) {
+                more = came != 0;
+                for (int i = 0; i < 6 && more; i++) {
                     all.add((long) x.member(i, 2));
                 }
             }
         }
+        return all;
     }
 }

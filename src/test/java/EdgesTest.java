@@ -308,8 +308,8 @@ public final class EdgesTest {
     private static void asDone() {
         Rows.sentence("14, 15: BY DAYS, n of them (0 to 60)");
         for (String text : NUTS) {
-            WalnutHouses now = Rows.told(text);
             for (int n = 0; n <= 60; n++) {
+                WalnutHouses now = Rows.told(text);
                 WalnutHouses then = Rows.told(text);
                 pass(then, n);
                 int[] due = {then.rule(2), then.rule(6), then.rule(3), then.count(5), then.rule(4)};

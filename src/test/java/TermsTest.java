@@ -77,12 +77,17 @@ public final class TermsTest {
         Rows.due("behind them a call still ends", x.rule(99), BAD);
     }
 
-    /** A new object that is filled as far as it goes. */
+    /** As many MEMBERS and as many SEEN as there can be. */
     private static WalnutHouses full() {
         WalnutHouses x = Rows.rich(6);
         for (int n = 0; n < 3; n++) {
             x.see(0, x.rule(2));
         }
+        return x;
+    }
+
+    private static WalnutHouses fullTape() {
+        WalnutHouses x = Rows.rich(2);
         Rows.feed(x, " ".repeat(152));
         return x;
     }
@@ -95,9 +100,9 @@ public final class TermsTest {
 
     private static void firstThatFits() {
         Rows.sentence("BAD, STATE, FULL, NONE, the first that fits; what is refused changes nothing");
-        Rows.leaves("feed(32), 160 bytes", TermsTest::full, x -> x.feed(32), FULL);
-        Rows.leaves("feed(128), 160 bytes", TermsTest::full, x -> x.feed(128), BAD);
-        Rows.leaves("feed(-1), 160 bytes", TermsTest::full, x -> x.feed(-1), BAD);
+        Rows.leaves("feed(32), 160 bytes", TermsTest::fullTape, x -> x.feed(32), FULL);
+        Rows.leaves("feed(128), 160 bytes", TermsTest::fullTape, x -> x.feed(128), BAD);
+        Rows.leaves("feed(-1), 160 bytes", TermsTest::fullTape, x -> x.feed(-1), BAD);
         Rows.leaves("seat(0, 0), 6 MEMBERS", TermsTest::full, x -> x.seat(0, 0), FULL);
         Rows.leaves("seat(2, 0), 6 MEMBERS", TermsTest::full, x -> x.seat(2, 0), BAD);
         Rows.leaves("seat(0, 21), 6 MEMBERS", TermsTest::full, x -> x.seat(0, 21), BAD);
@@ -789,6 +794,24 @@ public final class TermsTest {
         x.forget(5);
         Rows.due("see: the 6th again", x.see(0, 1), 6);
         Rows.due("wants(0): the 6th counts too", x.wants(0), 0);
+        seenFromNowOn();
+    }
+
+    /** What was SEEN is neither moved nor forgotten as DAYS pass: it is told from the DAY on which it is asked. */
+    private static void seenFromNowOn() {
+        for (int passed = 0; passed <= 34; passed += 2) {
+            WalnutHouses x = Rows.told("whip 1 20 0;motion 0;");
+            x.see(4, passed / 2 + 2);
+            Rows.due("kinds(0) ahead of " + passed + " DAYS", x.kinds(0) & 1 << WHIP, passed == 0 ? 1 << WHIP : 0);
+            x.days(Math.min(30, passed));
+            x.days(Math.max(0, passed - 30));
+            Rows.due("count(0) behind " + passed + " DAYS", x.count(0), 1);
+            Rows.due("kinds(0) behind " + passed + " DAYS", x.kinds(0) & 1 << WHIP, 1 << WHIP);
+            Rows.due("wants(0) behind " + passed + " DAYS", x.wants(0) & 1 << 20, 1 << 20);
+            x.days(2);
+            Rows.due("kinds(0) behind two more", x.kinds(0) & 1 << WHIP, 0);
+            Rows.due("wants(0) behind two more", x.wants(0) & 1 << 20, 0);
+        }
     }
 
     private static void sheets() {
