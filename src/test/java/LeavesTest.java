@@ -17,6 +17,7 @@ public final class LeavesTest {
     private static final int[][] NOBODY = {};
 
     public static void main(String[] args) {
+        looking();
         texts();
         asked();
         askedOfTheStuck();
@@ -31,18 +32,18 @@ public final class LeavesTest {
     }
 
     /** All parts differ from a new object's; what is SEEN is n behind n DAYS, so that look() can tell it. */
-    private static WalnutHouses rich(int[][] members) {
+    private static WalnutHouses made(int[][] members, boolean kept) {
         WalnutHouses x = Rows.seated(members);
         x.word(8);
         Rows.feed(x, "?");
         x.text();
         x.days(3);
         x.see(2, 2);
-        x.keep(0);
+        x.keep(kept ? 0 : BAD);
         x.days(2);
         x.see(7, 7);
         x.see(4, 4);
-        x.keep(1);
+        x.keep(kept ? 1 : BAD);
         x.word(13);
         x.forget(1);
         x.see(20, 20);
@@ -64,11 +65,15 @@ public final class LeavesTest {
     }
 
     private static WalnutHouses rich() {
-        return rich(Rows.SIX);
+        return made(Rows.SIX, true);
+    }
+
+    private static WalnutHouses unkept() {
+        return made(Rows.SIX, false);
     }
 
     private static WalnutHouses stuck() {
-        return rich(STUCK);
+        return made(STUCK, true);
     }
 
     private static WalnutHouses unseen() {
@@ -88,7 +93,7 @@ public final class LeavesTest {
     }
 
     private static WalnutHouses late() {
-        WalnutHouses x = rich(STUCK);
+        WalnutHouses x = rich();
         for (int n = 0; n < 33; n++) {
             x.days(30);
         }
@@ -189,6 +194,34 @@ public final class LeavesTest {
         }
     }
 
+    /** Looking itself changes nothing that it has not told yet: it tells what was put there. */
+    private static void looking() {
+        Rows.sentence("what is looked at is as it was made");
+        Map<String, List<Long>> due = new LinkedHashMap<>();
+        due.put("fault", List.of(1L));
+        due.put("torn", List.of(1L));
+        due.put("images", List.of(2L));
+        due.put("cells of sheet 0", List.of(6L));
+        due.put("members", List.of(6L));
+        due.put("day", List.of(5L));
+        due.put("motion", List.of(13L));
+        due.put("seen", List.of(3L, 2L));
+        due.put("sheet 0", List.of(3L, 2L, 14L, 12L, 10L, 3L, 4L, 5L, 0L, 2L, 0L, 3L, 0L, 3L));
+        due.put("sheet 1", List.of(0L, 3L, 6L, 0L, 0L, 1L, 2L, 3L, 4L, 5L, 6L, 0L, 6L, 7L, 8L, 9L, 10L, 11L,
+            6L, 0L, 12L, 13L, 14L, 15L, 16L, 17L, 2L, 2L, 18L, 19L, 14L, 15L, 16L, 17L, 0L, 3L));
+        due.put("sheet 2", List.of(0L, 3L, 0L, 3L, 1L, 2L, 0L, 11L, 2L, 3L, 4L, 5L, 0L, 2L));
+        due.put("sheet 3", List.of(0L, 1L, 0L, 1L, 0L, 1L));
+        due.put("image 0", List.of(3L));
+        due.put("image 0 members", List.of(6L));
+        due.put("image 0 seen", List.of(1L, 2L));
+        due.put("image 1", List.of(5L));
+        due.put("image 1 members", List.of(6L));
+        due.put("image 1 seen", List.of(3L, 2L));
+        due.put("tape", List.of(8L, 1L, 0L, 0L, 17L));
+        Map<String, List<Long>> is = look(rich());
+        due.forEach((part, v) -> Rows.due(part + " is " + is.get(part) + ", due " + v, v.equals(is.get(part)) ? 1 : 0, 1));
+    }
+
     private static void texts() {
         Rows.sentence("2, 3: THE TAPE alone is changed by feed and end");
         changes("feed('2')", LeavesTest::rich, x -> x.feed('2'), 9, due -> due.put("tape", List.of(9L, -17L, 1L, 2L, 0L)));
@@ -276,11 +309,11 @@ public final class LeavesTest {
             leaves("mind(0, " + w + ")", LeavesTest::stuck, x -> x.mind(0, w), NONE);
             leaves("kind(0, " + w + ")", LeavesTest::stuck, x -> x.kind(0, w), NONE);
             leaves("ask(0, " + w + ")", LeavesTest::stuck, x -> x.ask(0, w), NONE);
-            leaves("drift(1, 1, " + w + ")", () -> rich(NOBODY), x -> x.drift(1, 1, w), STATE);
+            leaves("drift(1, 1, " + w + ")", () -> made(NOBODY, true), x -> x.drift(1, 1, w), STATE);
         }
         leaves("count(3), SHEET 0 is nothing", WalnutHouses::new, x -> x.count(3), NONE);
-        leaves("back(0), no IMAGE", WalnutHouses::new, x -> x.back(0), STATE);
-        leaves("back(1), no IMAGE", WalnutHouses::new, x -> x.back(1), STATE);
+        leaves("back(0), no IMAGE", LeavesTest::unkept, x -> x.back(0), STATE);
+        leaves("back(1), no IMAGE", LeavesTest::unkept, x -> x.back(1), STATE);
     }
 
     private static void refused() {
