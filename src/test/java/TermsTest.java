@@ -9,6 +9,8 @@ public final class TermsTest {
     private static final int LOWEST = Rows.LOWEST, HIGHEST = Rows.HIGHEST;
     private static final String[] NAMES = {"plain", "whip", "doubter", "maggot"};
     private static final int[] TIRES = {1, 0, 2, 3};
+    /** The calls of Rows.rich(6), at most. */
+    private static final int RICH_CALLS = 80;
 
     public static void main(String[] args) {
         calls512();
@@ -150,7 +152,19 @@ public final class TermsTest {
     }
 
     private static void asked(String call, ToLongFunction<WalnutHouses> op) {
-        Rows.leaves(call, () -> Rows.rich(6), op, op.applyAsLong(Rows.rich(6)));
+        long first = op.applyAsLong(Rows.rich(6));
+        Rows.leaves(call, () -> Rows.rich(6), op, first);
+        again(call, Rows.rich(6), op, first, 512 - RICH_CALLS);
+        again(call, new WalnutHouses(), op, op.applyAsLong(new WalnutHouses()), 512);
+    }
+
+    /** Asked again and again, up to the 512th call of an object, it answers the same. */
+    private static void again(String call, WalnutHouses x, ToLongFunction<WalnutHouses> op, long first, int times) {
+        int others = 0;
+        for (int n = 0; n < times; n++) {
+            others += op.applyAsLong(x) == first ? 0 : 1;
+        }
+        Rows.due(call + ", " + times + " times: answers that differ", others, 0);
     }
 
     private static void askingChangesNothing() {
@@ -475,6 +489,19 @@ public final class TermsTest {
         text("21;", -10, 2);
         text("plain;$", -15, 2);
         text("motion 1;$motion 1;", -19, 1);
+        for (char no = 0; no < 128; no++) {
+            if ((no < 'a' || no > 'z') && (no < '0' || no > '9') && no != ' ' && no != ';') {
+                // what is no TOKEN is not met where another FAULT stands ahead of it
+                text("motion 21" + no, -17, 3);
+                text("motion 21;plain" + no, -17, 3);
+                text("motion 2;plain 0" + no + " motion 2;", -26, 1);
+                text("motion 2;motion" + no, -19, 4);
+                text("plain 0 21 0;" + no, -18, 3);
+                text(";" + no, -10, 2);
+                text("plains" + no, -10, 2);
+                text(six + "plain" + no, -76, 5);
+            }
+        }
     }
 
     /** A text that is cut is taken only behind a line; else it lacks a TOKEN at its end, or a NAME is cut. */
